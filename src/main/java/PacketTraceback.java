@@ -373,20 +373,15 @@ public final class PacketTraceback {
                 continue;
             }
             for (int part = block; part < block + SAME_FRAGMENT_3; part += SAME_FRAGMENT_2) {
-                if (marks.holdsPart(distance, 2, wordOf(part) ^ parentWord)
-                        && !findInPart(part, distance, parent, parentWord)) {
-                    return false;
+                if (!marks.holdsPart(distance, 2, wordOf(part) ^ parentWord)) {
+                    continue;
                 }
-            }
-        }
-        return true;
-    }
-
-    private boolean findInPart(int part, int distance, int parent, int parentWord) {
-        for (int address = part; address < part + SAME_FRAGMENT_2; address++) {
-            if (marks.holdsWord(distance, wordOf(address) ^ parentWord)
-                    && !spareNodes.append(address, distance, parent)) {
-                return false;
+                for (int address = part; address < part + SAME_FRAGMENT_2; address++) {
+                    if (marks.holdsWord(distance, wordOf(address) ^ parentWord)
+                            && !spareNodes.append(address, distance, parent)) {
+                        return false;
+                    }
+                }
             }
         }
         return true;
@@ -512,7 +507,11 @@ public final class PacketTraceback {
         private int fragment;
 
         Packet() {
-            startUnmarked();
+            marked = false;
+            markedByRouter = false;
+            distance = 0;
+            offset = 0;
+            fragment = 0;
         }
 
         void startUnmarked() {
