@@ -1,11 +1,20 @@
 /** Counts and prints the answers that are not as due; a test's main ends with {@link #finish}. */
 final class Checks {
-    private final String name;
+    private String name;
     private int made;
     private int wrong;
 
     Checks(String name) {
         this.name = name;
+    }
+
+    /** The name that stands before the faults from here on. */
+    void begin(String newName) {
+        name = newName;
+    }
+
+    int made() {
+        return made;
     }
 
     void due(String call, int got, int want) {

@@ -1,4 +1,7 @@
-/** Puts chosen marks into the record of an object whose only router, or gateway, is router 0. */
+/**
+ * Puts chosen marks into the record of an object whose gateway has a known address. Fragments are
+ * worked out by NaiveTraceback, since an object is used for at most 512 calls.
+ */
 final class Forger {
     private Forger() { }
 
@@ -15,7 +18,7 @@ final class Forger {
     /** Records one mark with a distance of 1 or more; the first number of seed 1 is 16838. */
     static void put(PacketTraceback x, int gateway, int distance, int offset, int fragment) {
         int before = x.setSeed(1);
-        int start = distance == 1 ? fragment ^ x.fragment(gateway, offset) : fragment;
+        int start = distance == 1 ? fragment ^ NaiveTraceback.fragments(gateway)[offset] : fragment;
         x.sendForged(0, 1, distance - 1, offset, start);
         x.setSeed(before);
     }
@@ -23,8 +26,8 @@ final class Forger {
     /** Records the four marks by which the tree gets a node with this address and parent. */
     static void putNode(PacketTraceback x, int gateway, int distance, int address, int parentAddress) {
         for (int offset = 0; offset < 4; offset++) {
-            int fragment = x.fragment(address, offset) ^ x.fragment(parentAddress, offset);
-            put(x, gateway, distance, offset, fragment);
+            put(x, gateway, distance, offset, NaiveTraceback.fragments(address)[offset]
+                    ^ NaiveTraceback.fragments(parentAddress)[offset]);
         }
     }
 }

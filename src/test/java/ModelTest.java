@@ -1,8 +1,11 @@
+import java.util.ArrayList;
+import java.util.List;
 import java.util.Random;
 
 /**
  * Long runs of calls from fixed seeds, each call made on the class and on NaiveTraceback, whose
- * answers must be the same; after a run the whole state that can be seen is compared.
+ * answers must be the same; after a run the whole state that can be seen is compared, on objects
+ * on which the run is made again, so that none of them is used for more than 512 calls.
  */
 public final class ModelTest {
     private static final Checks CHECKS = new Checks("ModelTest");
@@ -22,6 +25,7 @@ public final class ModelTest {
     private final int forgerDistances;
     private final PacketTraceback real = new PacketTraceback();
     private final NaiveTraceback naive = new NaiveTraceback();
+    private final List<Call> played = new ArrayList<>();
 
     private ModelTest(int run) {
         this.run = run;
@@ -135,97 +139,17 @@ public final class ModelTest {
     }
 
     private void compareState() {
-        for (int distance = 0; distance < 32; distance++) {
-            both("packetsAtDistance", distance);
-            for (int offset = 0; offset < 4; offset++) {
-                both("fragmentCount", distance, offset);
-                for (int fragment = 0; fragment < 32; fragment++) {
-                    both("markCount", distance, offset, fragment);
-                }
-            }
+        List<Call> questions = World.questions();
+        List<Integer> answers = World.of(played).answers(questions);
+        for (int place = 0; place < questions.size(); place++) {
+            Call question = questions.get(place);
+            CHECKS.due("after run " + run + " " + question.text(), answers.get(place), question.on(naive));
         }
-        for (int node = -1; node <= naive.nodeCount(); node++) {
-            both("nodeAddress", node);
-            both("nodeDistance", node);
-            both("nodeParent", node);
-            both("nodeRouter", node);
-        }
-        for (int router = -1; router <= naive.routerCount(); router++) {
-            both("depth", router);
-            both("isPathComplete", router);
-            both("nodeOf", router);
-        }
-        both("falseNodeCount");
-        both("nodeCount");
-        both("unmarkedCount");
-        both("greatestDistance");
-        both("clearMarks");
-        both("setSeed", 0);
     }
 
-    private void both(String call, int... a) {
-        CHECKS.due("run " + run + " " + call + java.util.Arrays.toString(a), onReal(call, a), onNaive(call, a));
-    }
-
-    private int onReal(String call, int[] a) {
-        return switch (call) {
-            case "addRouter" -> real.addRouter(a[0], a[1]);
-            case "routerCount" -> real.routerCount();
-            case "depth" -> real.depth(a[0]);
-            case "digest" -> real.digest(a[0]);
-            case "fragment" -> real.fragment(a[0], a[1]);
-            case "setMarkingPercent" -> real.setMarkingPercent(a[0]);
-            case "setSeed" -> real.setSeed(a[0]);
-            case "clearMarks" -> real.clearMarks();
-            case "sendPackets" -> real.sendPackets(a[0], a[1]);
-            case "sendForged" -> real.sendForged(a[0], a[1], a[2], a[3], a[4]);
-            case "packetsAtDistance" -> real.packetsAtDistance(a[0]);
-            case "unmarkedCount" -> real.unmarkedCount();
-            case "markCount" -> real.markCount(a[0], a[1], a[2]);
-            case "fragmentCount" -> real.fragmentCount(a[0], a[1]);
-            case "greatestDistance" -> real.greatestDistance();
-            case "isPathComplete" -> real.isPathComplete(a[0]);
-            case "packetsNeeded" -> real.packetsNeeded(a[0], a[1]);
-            case "reconstruct" -> real.reconstruct();
-            case "nodeCount" -> real.nodeCount();
-            case "nodeAddress" -> real.nodeAddress(a[0]);
-            case "nodeDistance" -> real.nodeDistance(a[0]);
-            case "nodeParent" -> real.nodeParent(a[0]);
-            case "nodeRouter" -> real.nodeRouter(a[0]);
-            case "falseNodeCount" -> real.falseNodeCount();
-            case "nodeOf" -> real.nodeOf(a[0]);
-            default -> throw new IllegalArgumentException(call);
-        };
-    }
-
-    private int onNaive(String call, int[] a) {
-        return switch (call) {
-            case "addRouter" -> naive.addRouter(a[0], a[1]);
-            case "routerCount" -> naive.routerCount();
-            case "depth" -> naive.depth(a[0]);
-            case "digest" -> naive.digest(a[0]);
-            case "fragment" -> naive.fragment(a[0], a[1]);
-            case "setMarkingPercent" -> naive.setMarkingPercent(a[0]);
-            case "setSeed" -> naive.setSeed(a[0]);
-            case "clearMarks" -> naive.clearMarks();
-            case "sendPackets" -> naive.sendPackets(a[0], a[1]);
-            case "sendForged" -> naive.sendForged(a[0], a[1], a[2], a[3], a[4]);
-            case "packetsAtDistance" -> naive.packetsAtDistance(a[0]);
-            case "unmarkedCount" -> naive.unmarkedCount();
-            case "markCount" -> naive.markCount(a[0], a[1], a[2]);
-            case "fragmentCount" -> naive.fragmentCount(a[0], a[1]);
-            case "greatestDistance" -> naive.greatestDistance();
-            case "isPathComplete" -> naive.isPathComplete(a[0]);
-            case "packetsNeeded" -> naive.packetsNeeded(a[0], a[1]);
-            case "reconstruct" -> naive.reconstruct();
-            case "nodeCount" -> naive.nodeCount();
-            case "nodeAddress" -> naive.nodeAddress(a[0]);
-            case "nodeDistance" -> naive.nodeDistance(a[0]);
-            case "nodeParent" -> naive.nodeParent(a[0]);
-            case "nodeRouter" -> naive.nodeRouter(a[0]);
-            case "falseNodeCount" -> naive.falseNodeCount();
-            case "nodeOf" -> naive.nodeOf(a[0]);
-            default -> throw new IllegalArgumentException(call);
-        };
+    private void both(String method, int... arguments) {
+        Call call = new Call(method, arguments);
+        played.add(call);
+        CHECKS.due("run " + run + " " + call.text(), call.on(real), call.on(naive));
     }
 }
