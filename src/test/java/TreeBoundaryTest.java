@@ -392,6 +392,25 @@ public final class TreeBoundaryTest extends Boundary {
         due(oneAbove, -7, "nodeRouter", 2);
     }
 
+    /** The way of router 0 ends at once, also where the node above has the address 0. */
+    static void promise24NoneBelowAGatewayOfAddress0() {
+        World world = World.empty().and("addRouter", 0, 0).and("setMarkingPercent", 100)
+                .and("sendPackets", 0, 50).forging();
+        for (int offset = 0; offset < 4; offset++) {
+            // Router 0 joins its own fragment, so that 0 is recorded at distance 1.
+            world = world.and("sendForged", 0, 1, 0, offset, NaiveTraceback.fragments(0)[offset]);
+        }
+        World built = world.copies(2, 3).and("reconstruct");
+        due(built, 4, "nodeCount");
+        due(built, 0, "nodeRouter", 0);
+        for (int node = 1; node < 4; node++) {
+            due(built, 0, "nodeAddress", node);
+            unchanged(built, -7, "nodeRouter", node);
+        }
+        due(built, 3, "falseNodeCount");
+        due(built, 0, "nodeOf", 0);
+    }
+
     /** A router has the address, but its way to router 0 is longer than the node's. */
     static void promise24NoneIfTheNodeIsNearerThanTheRouter() {
         World built = World.gateway().and("addRouter", 0, 300).and("addRouter", 1, 4000).node(1, 4000, 17)
