@@ -2,7 +2,10 @@ import java.lang.reflect.InvocationTargetException;
 import java.lang.reflect.Method;
 import java.util.Arrays;
 import java.util.HashMap;
+import java.util.List;
 import java.util.Map;
+import java.util.regex.MatchResult;
+import java.util.regex.Pattern;
 
 /** A call as data, so that it can be named, changed, and made on the class and on NaiveTraceback. */
 record Call(String method, int... arguments) {
@@ -15,6 +18,23 @@ record Call(String method, int... arguments) {
             methods.put(method.getName(), method);
         }
         return methods;
+    }
+
+    /** A call with the answer that is due. */
+    record Answered(Call call, int answer) {
+        private static final Pattern FORM = Pattern.compile("(\\w+)\\(([-\\d, ]*)\\) = (-?\\d+)");
+
+        /** The calls with their answers as a text has them: "depth(1) = 1". */
+        static List<Answered> in(String text) {
+            return FORM.matcher(text).results().map(Answered::read).toList();
+        }
+
+        private static Answered read(MatchResult found) {
+            String list = found.group(2).strip();
+            int[] values = list.isEmpty() ? new int[0]
+                    : Arrays.stream(list.split(", *")).mapToInt(Integer::parseInt).toArray();
+            return new Answered(new Call(found.group(1), values), Integer.parseInt(found.group(3)));
+        }
     }
 
     /** The same call with one argument changed. */

@@ -135,6 +135,12 @@ final class World {
         return calls.size();
     }
 
+    /** How many packets its calls send, if none of them is refused. */
+    int packetsSent() {
+        return calls.stream().filter(call -> call.method().startsWith("send"))
+                .mapToInt(call -> call.arguments()[1]).sum();
+    }
+
     PacketTraceback make() {
         PacketTraceback x = new PacketTraceback();
         calls.forEach(call -> call.on(x));
